@@ -9,7 +9,7 @@ public final class LoveParts {
     private static final int MOST_WORDS = 18, MOST_KNIGHTS = 40, KNIGHTS_BY_LAND = 4;
     private static final int BY_WORDS_AND_KNIGHTS = 1, BY_HEADS = 2, BY_FEW_WORDS = 3;
     private static final int ACTS = 24, IMAGES = 2, MOST_MONTH = 999, FAR_MONTHS = 60;
-    private static final int NO_LETTER = 1000000;
+    private static final int NO_LETTER = 1000000, NOBODY = -1;
 
     private final Row[] rows = new Row[ROWS];
     private final Reader reader = new Reader();
@@ -30,7 +30,6 @@ public final class LoveParts {
 
     public LoveParts() {
         Nature plain = new Plain();
-        natures[0] = plain;
         natures[1] = plain;
         natures[2] = new Schooled();
         natures[3] = new Joint();
@@ -430,10 +429,8 @@ public final class LoveParts {
         for (int i = 0; i < now.heirs; i++) {
             below *= now.all[i].spoken ? 10 : 1;
         }
-        long common = commonDivisor(above, below);
-        if (common == 0) {
-            return BAD;
-        }
+        // below is 1 at least, and so is what divides it
+        long common = Math.max(commonDivisor(above, below), 1);
         return (what == 0 ? above : below) / common;
     }
 
@@ -827,19 +824,16 @@ public final class LoveParts {
                 } else if (i == MOST_HEIRS) {
                     fault = NO_ROOM;
                 } else {
+                    Heir h = into.all[i];
+                    h.nature = natures[kind];
                     nextToken();
-                    readHeir(into.all[i]);
-                    into.all[i].nature = natures[kind];
+                    h.love = number(0, MOST_LOVE);
+                    sign(',');
+                    h.tongue = number(0, 9);
+                    sign(';');
                     into.heirs = i + 1;
                 }
             }
-        }
-
-        void readHeir(Heir h) {
-            h.love = number(0, MOST_LOVE);
-            sign(',');
-            h.tongue = number(0, 9);
-            sign(';');
         }
 
         static int kindBySort(int letter) {
@@ -997,33 +991,32 @@ public final class LoveParts {
         }
 
         int ownWords(int heir) {
-            Heir h = all[heir];
-            for (int i = heir - 1; i >= 0; i--) {
+            int nearest = NOBODY;
+            for (int i = 0; i < heir; i++) {
                 if (all[i].spoken) {
-                    return Math.min(h.nature.ownBehind(h, all[i].said), MOST_WORDS);
+                    nearest = all[i].said;
                 }
             }
-            return Math.min(h.nature.ownFirst(h), MOST_WORDS);
+            Heir h = all[heir];
+            return Math.min(h.nature.own(h, nearest), MOST_WORDS);
         }
 
         int says(int heir) {
             return all[heir].spoken ? all[heir].said : ownWords(heir);
         }
 
-        int weight(int heir, int by) {
-            if (by == BY_HEADS) {
-                return 1;
+        static int weight(int says, int promised, int by) {
+            switch (by) {
+                case BY_WORDS_AND_KNIGHTS: return says + promised + 1;
+                case BY_HEADS: return 1;
+                case BY_FEW_WORDS: return MOST_WORDS - says + 1;
+                default: return says + 1;
             }
-            int says = says(heir);
-            if (by == BY_FEW_WORDS) {
-                return MOST_WORDS - says + 1;
-            }
-            return says + 1 + (by == BY_WORDS_AND_KNIGHTS ? all[heir].promised : 0);
         }
 
         void weigh(int by, int[] out) {
             for (int i = 0; i < heirs; i++) {
-                out[i] = weight(i, by);
+                out[i] = weight(says(i), all[i].promised, by);
             }
         }
 
@@ -1093,13 +1086,8 @@ public final class LoveParts {
     private abstract static class Nature {
         abstract int number();
 
-        /** OWN words, if nobody ahead has SPOKEN. */
-        abstract int ownFirst(Heir h);
-
-        /** OWN words behind one who SAID so much. */
-        int ownBehind(Heir h, int said) {
-            return ownFirst(h);
-        }
+        /** OWN words (as many as they are) behind the nearest who SAID so much, or NOBODY. */
+        abstract int own(Heir h, int nearest);
 
         int size(Heir h, Trace t) {
             t.leave(10);
@@ -1117,7 +1105,7 @@ public final class LoveParts {
             return 1;
         }
 
-        int ownFirst(Heir h) {
+        int own(Heir h, int nearest) {
             return h.love;
         }
 
@@ -1137,7 +1125,7 @@ public final class LoveParts {
             return 2;
         }
 
-        int ownFirst(Heir h) {
+        int own(Heir h, int nearest) {
             return h.love + h.tongue;
         }
 
@@ -1157,8 +1145,8 @@ public final class LoveParts {
             return 3;
         }
 
-        int ownBehind(Heir h, int said) {
-            return said + 1;
+        int own(Heir h, int nearest) {
+            return nearest == NOBODY ? h.love : nearest + 1;
         }
 
         int mark(Heir h, Trace t) {
@@ -1172,7 +1160,7 @@ public final class LoveParts {
             return 4;
         }
 
-        int ownFirst(Heir h) {
+        int own(Heir h, int nearest) {
             return 0;
         }
 
@@ -1192,7 +1180,7 @@ public final class LoveParts {
             return 5;
         }
 
-        int ownFirst(Heir h) {
+        int own(Heir h, int nearest) {
             return 9 - h.love;
         }
 

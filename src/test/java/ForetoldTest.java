@@ -282,6 +282,10 @@ public final class ForetoldTest {
         C.due("status PLACE", x.status(), 2);
         C.due("i -1", x.map(0, -1), Checks.PLACE);
         C.due("missing", x.map(1, -1), Checks.NULL);
+        C.due("row 7", x.map(7, 0), Checks.NULL);
+        Checks.fill(x, 2, 2, 11, 0);
+        C.due("the first one's land is not so", x.map(2, 0), 0);
+        C.due("missing", x.map(1, -1), Checks.NULL);
         C.due("row 8", x.map(8, 0), Checks.BAD);
         C.due("row -1", x.map(-1, 0), Checks.BAD);
         C.due("status yet", x.status(), 1);
@@ -309,6 +313,9 @@ public final class ForetoldTest {
         C.due("silent: 84 and one left by 14", x.who(1, 0, 0), 16);
         Checks.fill(x, 0, 0, 60, 38);
         C.due("nobody", x.who(1, 0, 0), 0);
+        Checks.fill(x, 0, 0, 61, 39);
+        C.due("nobody, by the first one's land", x.who(1, 0, 0), 0);
+        C.due("row 7", x.who(1, 7, 0), Checks.NULL);
         Checks.fill(x, 0, 0, 7, 60, 39);
         C.due("who has spoken may be any", x.who(0, 0, 1), 62);
         C.due("its kind stays", x.kind(1), 1);

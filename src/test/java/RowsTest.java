@@ -52,6 +52,7 @@ public final class RowsTest {
         C.due("int most", x.set(2, 1, Integer.MAX_VALUE), Integer.MAX_VALUE);
         C.due("row 8", x.set(8, 0, 0), Checks.BAD);
         C.due("row -1", x.set(-1, 0, 0), Checks.BAD);
+        C.due("row 7", x.set(7, 0, 0), Checks.NULL);
         C.due("missing", x.set(3, 0, 0), Checks.NULL);
         C.due("status NULL", x.status(), 1);
         C.due("BAD leaves status", x.set(8, 0, 0), Checks.BAD);
@@ -104,6 +105,10 @@ public final class RowsTest {
         C.due("NULL of the first", x.copy(3, 0, 0, 0, 0), Checks.NULL);
         C.due("BAD ahead of NULL", x.copy(3, 0, 8, 0, 0), Checks.BAD);
         C.due("BAD a", x.copy(-1, 0, 0, 0, 0), Checks.BAD);
+        C.due("BAD a 8", x.copy(8, 0, 0, 0, 0), Checks.BAD);
+        C.due("BAD b", x.copy(0, 0, -1, 0, 0), Checks.BAD);
+        C.due("a 7", x.copy(7, 0, 0, 0, 0), Checks.NULL);
+        C.due("b 7", x.copy(0, 0, 7, 0, 0), Checks.NULL);
         C.due("found changes nothing", ItemReader.read(x, 1, 0), 2);
     }
 

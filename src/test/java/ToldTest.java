@@ -184,6 +184,7 @@ public final class ToldTest {
         x.months(20);
         x.row(3, 1, 4);
         x.ask(0, 1);
+        x.ahead(60, 0);
         Checks.tell(x, "k9,50,1,1;p1,2;s3,4;j5,6;");
         x.realm();
         C.due("month", x.count(5), 0);

@@ -109,19 +109,27 @@ final class AskedEdges {
         s.due("the first body", x.trace(0), 12);
     }
 
+    private void traced(char sort, int what, int... bodies) {
+        LoveParts x = Checks.of("k1,0,0,0;p0,0;" + sort + "0,0;");
+        x.ask(1, what);
+        for (int i = 0; i < bodies.length; i++) {
+            s.due(sort + ", " + what + ": body " + i, x.trace(i), bodies[i]);
+        }
+        s.due(sort + ", " + what + ": no more", x.trace(bodies.length), Checks.NONE);
+    }
+
     private void traceAtTheEdges() {
         s.term(4, "each of which leaves its number in THE TRACE as it begins (the first 16)");
-        LoveParts x = Checks.of("k1,0,0,0;s0,0;i0,0;");
-        x.ask(0, 0);
-        int[] schooled = {12, 11, 10, 24, 21, 20};
-        for (int i = 0; i < 6; i++) {
-            s.due("schooled " + i, x.trace(i), schooled[i]);
-        }
-        x.ask(1, 1);
-        int[] ironic = {23, 20, 14, 13, 10};
-        for (int i = 0; i < 5; i++) {
-            s.due("ironic " + i, x.trace(i), ironic[i]);
-        }
+        traced('p', 0, 11, 10, 21, 20);
+        traced('p', 1, 21, 20);
+        traced('s', 0, 12, 11, 10, 24, 21, 20);
+        traced('s', 1, 24, 21, 20);
+        traced('j', 0, 11, 10, 22, 21, 20);
+        traced('j', 1, 22, 21, 20);
+        traced('q', 0, 13, 10);
+        traced('q', 1, 23, 20, 13, 10);
+        traced('i', 0, 14, 13, 10);
+        traced('i', 1, 23, 20, 14, 13, 10);
         s.promise(34, "Number i of THE TRACE; NONE.");
         s.leavesAll("the last", Scenes::told, y -> y.trace(5), 20, Scenes.STATUS);
         s.refuses("behind the last", Scenes::told, y -> y.trace(6), Checks.NONE);

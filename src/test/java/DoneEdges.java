@@ -304,6 +304,10 @@ final class DoneEdges {
         x.part();
         s.due("all of it", x.heir(1, 5), 1);
         s.due("none", x.heir(0, 5), 0);
+        LoveParts y = Checks.of("k99,0,0,2;p0,0;p0,0;p0,0;p0,0;");
+        y.part();
+        s.due("the first, and what is left", y.heir(0, 5), 27);
+        s.due("the last", y.heir(3, 5), 24);
         s.promise(11, "STATE: no REALM, it is PARTED.");
         s.refuses("no realm", Scenes::noRealm, LoveParts::part, Checks.STATE);
         s.refuses("parted", Scenes::parted, LoveParts::part, Checks.STATE);

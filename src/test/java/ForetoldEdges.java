@@ -1,3 +1,6 @@
+import java.util.List;
+import java.util.function.ToLongFunction;
+
 /** Edges of the promises 17 to 30, and of what 'Terms' tell of what is foretold. */
 final class ForetoldEdges {
     private static final int FAR = Integer.MAX_VALUE, LOW = Integer.MIN_VALUE;
@@ -163,8 +166,21 @@ final class ForetoldEdges {
         s.due("40 against 22 and 18 words", y.trueRule(), 1);
         y.speak(0, 0, 23);
         s.due("40 against 23 and 18 words", y.trueRule(), 2);
+        wordsOfEachCount();
         s.promise(20, "TRUE RULE; NONE. STATE: no REALM.");
         s.refuses("no realm", Scenes::noRealm, LoveParts::trueRule, Checks.STATE);
+    }
+
+    /** One rival of the truest, whose words alone stand against 40 knights. */
+    private void wordsOfEachCount() {
+        for (int rival = 1; rival < 4; rival++) {
+            LoveParts x = Checks.of("k39,0,0,0;p9,0;p0,0;p0,0;p0,0;");
+            x.speak(0, 0, 40);
+            x.speak(rival, 0, 22);
+            s.due("40 against 22 and 18 words of " + rival, x.trueRule(), 1);
+            x.speak(rival, 0, 40);
+            s.due("40 against 40 and 18 words of " + rival, x.trueRule(), 2);
+        }
     }
 
     private void orders() {
@@ -448,6 +464,10 @@ final class ForetoldEdges {
         odds(z, 0, 0, 0, 1);
         z.speak(0, 1, 8);
         odds(z, 0, 3, 3, 10);
+        LoveParts w = Checks.of("k10,0,0,0;p0,0;p0,0;");
+        w.speak(0, 5, 0);
+        // 1 by 1, no less: the first of several
+        odds(w, 0, 0, 1, 1);
     }
 
     private void oddsRefused() {
@@ -532,6 +552,22 @@ final class ForetoldEdges {
         s.refuses("no realm, 2", Scenes::noRealm, y -> y.image(2), Checks.BAD);
     }
 
+    /** Each first call behind restore() must tell of the realm that is there now. */
+    private void foretoldAsRestored() {
+        List<ToLongFunction<LoveParts>> calls = List.of(x -> x.share(1, 0), x -> x.best(1, 0), x -> x.best(0, 1),
+            LoveParts::rather, LoveParts::trueRule, x -> x.order(3, 0), x -> x.order(3, -1), x -> x.ahead(2, 0),
+            x -> x.down(3), x -> x.loves(0, 2, 1, 1, 1), x -> x.map(2, 1), x -> x.who(1, 2, 1), x -> x.odds(1, 5, 0),
+            x -> x.drawn(2, 1, 0));
+        for (int i = 0; i < calls.size(); i++) {
+            LoveParts x = Scenes.parted();
+            x.ahead(60, 0);
+            x.restore(0);
+            LoveParts y = two();
+            y.row(2, 2, 40);
+            s.due("foretold, call " + i, calls.get(i).applyAsLong(x), calls.get(i).applyAsLong(y));
+        }
+    }
+
     private void restored() {
         s.promise(30, "The REALM is as an IMAGE kept it (no ACT can be undone then): 1.");
         LoveParts x = Scenes.parted();
@@ -549,6 +585,7 @@ final class ForetoldEdges {
         x.speak(0, 9, 9);
         s.due("once more", x.restore(0), 1);
         s.due("the image is as it was", x.heir(0, 2), 0);
+        foretoldAsRestored();
         s.promise(30, "BAD; STATE: none was kept.");
         s.refuses("-1", Scenes::told, y -> y.restore(-1), Checks.BAD);
         s.refuses("2", Scenes::told, y -> y.restore(2), Checks.BAD);

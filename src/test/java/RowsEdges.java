@@ -55,9 +55,11 @@ final class RowsEdges {
         s.due("another lane", x.set(0, 0, 128), 128);
         s.due("the third is gone", x.set(0, 2, 1), Checks.PLACE);
         s.due("more", x.row(0, 2, 40), 40);
+        ItemReader.ready(x);
+        for (int i = 0; i < 4; i++) {
+            s.due("nothing is left of what was there: " + i, ItemReader.item(x, 0, i), 0);
+        }
         s.due("the lane again", x.set(0, 0, 32768), 32768);
-        s.due("none is left of what was there", ItemReader.read(x, 0, 1), 0);
-        s.due("nor behind", ItemReader.item(x, 0, 2), 0);
         s.due("none", x.row(0, 0, 0), 0);
         s.due("one row yet", x.count(0), 1);
         s.due("empty", x.drop(0), 0);

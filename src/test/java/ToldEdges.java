@@ -237,6 +237,7 @@ final class ToldEdges {
         s.term(1, "A REALM that is read stands in place of the one before (none at first): MONTH 0, nobody has SPOKEN, "
             + "nothing is PARTED, the king is with HEIR 0");
         LoveParts x = Scenes.parted();
+        x.ahead(60, 0);
         x.realm();
         Checks.tell(x, Scenes.TWO);
         x.realm();
@@ -252,11 +253,25 @@ final class ToldEdges {
             s.due("heir 1, " + what, x.heir(1, what), y.heir(1, what));
         }
         s.due("heir 2 is none", x.heir(2, 0), Checks.BAD);
+        moreHeirsThanBefore();
+    }
+
+    /** Nothing is left of what was foretold, either. */
+    private void moreHeirsThanBefore() {
+        LoveParts x = Scenes.parted();
+        x.realm();
+        x.restore(0);
+        x.rather();
+        x.drawn(60, 1, 0);
         Checks.tell(x, Scenes.FOUR);
         x.realm();
+        LoveParts y = Checks.of(Scenes.FOUR);
         s.due("more heirs", x.count(1), 4);
-        s.due("of whom nothing is left", x.heir(3, 7), 0);
-        s.due("no letter is left", x.heir(1, 6), 5);
+        for (int i = 0; i < 4; i++) {
+            for (int what = 0; what <= 8; what++) {
+                s.due("heir " + i + " of four, " + what, x.heir(i, what), y.heir(i, what));
+            }
+        }
     }
 
     private void noActCanBeUndone() {

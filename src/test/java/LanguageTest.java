@@ -4,54 +4,21 @@ import java.lang.reflect.Method;
 import java.lang.reflect.Modifier;
 import java.nio.file.Files;
 import java.nio.file.Path;
-import java.util.Arrays;
+import java.util.List;
 import java.util.Set;
 import java.util.TreeSet;
+import java.util.regex.Matcher;
 import java.util.regex.Pattern;
 
 /** The public face of the document, and those rules of LANGUAGE.md that can be seen from outside. */
 public final class LanguageTest {
     private static final Checks C = new Checks();
-    private static final String FACE = """
-        int row(int,int,int)
-        int set(int,int,int)
-        int copy(int,int,int,int,int)
-        int drop(int)
-        int feed(int)
-        int realm()
-        int fault()
-        int undo()
-        int speak(int,int,int)
-        int part()
-        int rule(int)
-        int months(int)
-        int letter(int,int)
-        int heir(int,int)
-        int king(int)
-        int share(int,int)
-        int best(int,int)
-        int rather()
-        int trueRule()
-        int order(int,int)
-        int ahead(int,int)
-        int down(int)
-        int loves(int,int,int,int,int)
-        int map(int,int)
-        int who(int,int,int)
-        long odds(int,int,int)
-        int drawn(int,int,int)
-        int image(int)
-        int restore(int)
-        int kind(int)
-        int as(int,int)
-        int ask(int,int)
-        int trace(int)
-        int count(int)
-        int status()
-        """;
-
-    public static void main(String[] args) throws IOException {
-        face();
+    public static void main(String[] args) throws IOException, ReflectiveOperationException {
+        Document document = new Document();
+        face(document);
+        promisesBearTheFace(document);
+        constants(document);
+        groups(document);
         classesInside();
         words();
         C.end("LanguageTest");
@@ -65,8 +32,18 @@ public final class LanguageTest {
         return s.append(')').toString();
     }
 
-    private static void face() {
-        Set<String> due = new TreeSet<>(Arrays.asList(FACE.strip().split("\\s*\n\\s*")));
+    /** The methods of the document's face, as faceOf tells them. */
+    private static Set<String> methodsOf(Document document) {
+        Set<String> methods = new TreeSet<>();
+        for (String line : document.face()) {
+            if (line.matches("public (int|long) \\w+\\(.*\\);")) {
+                methods.add(line.replaceAll("^public |;$", "").replaceAll(" \\w+(?=[,)])", "").replace(", ", ","));
+            }
+        }
+        return methods;
+    }
+
+    private static void face(Document document) {
         Set<String> got = new TreeSet<>();
         Set<String> names = new TreeSet<>();
         for (Method m : LoveParts.class.getDeclaredMethods()) {
@@ -74,13 +51,38 @@ public final class LanguageTest {
                 got.add(faceOf(m));
                 names.add(m.getName());
                 C.isTrue(m.getName() + " is not static", !Modifier.isStatic(m.getModifiers()));
+                C.due(m.getName() + " declares no exception", m.getExceptionTypes().length, 0);
             }
         }
-        C.isTrue("the face: " + got, got.equals(due));
+        C.due("methods of the document", methodsOf(document).size(), Document.PROMISES - 1);
+        C.isTrue("the face: " + got, got.equals(methodsOf(document)));
         for (Method m : LoveParts.class.getDeclaredMethods()) {
             boolean open = Modifier.isPublic(m.getModifiers());
             C.isTrue(m.getName() + " is public or private", open || Modifier.isPrivate(m.getModifiers()) || m.isSynthetic());
             C.isTrue(m.getName() + " bears no public name", open || !names.contains(m.getName()));
+        }
+        C.isTrue("public and final", Modifier.isPublic(LoveParts.class.getModifiers())
+            && Modifier.isFinal(LoveParts.class.getModifiers()));
+        C.due("one constructor", LoveParts.class.getDeclaredConstructors().length, 1);
+        C.due("it is public, without arguments", LoveParts.class.getConstructors()[0].getParameterCount(), 0);
+    }
+
+    /** Each promise tells one line of the face, in the order of the face. */
+    private static void promisesBearTheFace(Document document) {
+        List<String> face = document.face();
+        C.due("constants, constructor and methods", face.size(), Document.PROMISES + 1);
+        for (int n = 1; n <= Document.PROMISES && n < face.size(); n++) {
+            C.isTrue("promise " + n + " tells " + face.get(n),
+                face.get(n).equals("public " + document.signature(n) + ";"));
+        }
+    }
+
+    private static void constants(Document document) throws ReflectiveOperationException {
+        Matcher told = Pattern.compile("([A-Z]+) = (-[0-9]+)").matcher(document.face().get(0));
+        Set<String> due = new TreeSet<>();
+        while (told.find()) {
+            due.add(told.group(1));
+            C.due(told.group(1), LoveParts.class.getField(told.group(1)).getInt(null), Integer.parseInt(told.group(2)));
         }
         Set<String> constants = new TreeSet<>();
         for (Field f : LoveParts.class.getDeclaredFields()) {
@@ -92,10 +94,28 @@ public final class LanguageTest {
                 C.isTrue(f.getName() + " is private", Modifier.isPrivate(f.getModifiers()));
             }
         }
-        C.isTrue("the constants", constants.equals(Set.of("NONE", "BAD", "STATE", "FULL")));
-        C.isTrue("public and final", Modifier.isPublic(LoveParts.class.getModifiers())
-            && Modifier.isFinal(LoveParts.class.getModifiers()));
-        C.due("one constructor", LoveParts.class.getDeclaredConstructors().length, 1);
+        C.due("four constants", due.size(), 4);
+        C.isTrue("the constants", constants.equals(due));
+    }
+
+    /** The calls stand in the document's order, and ahead of each group what the interface says there. */
+    private static void groups(Document document) throws IOException {
+        String source = Files.readString(Path.of("src/main/java/LoveParts.java"));
+        int at = 0;
+        int calls = 0;
+        for (String[] group : document.groups()) {
+            int said = source.indexOf("// " + group[1] + "\n", at);
+            C.isTrue(group[1], said > at);
+            at = Math.max(said, at);
+            for (String call : group[0].split("\\s+")) {
+                Matcher m = Pattern.compile("public (int|long) " + call + "\\(").matcher(source);
+                boolean behind = m.find(at);
+                C.isTrue(call + " behind " + group[1], behind);
+                at = behind ? m.start() : at;
+                calls++;
+            }
+        }
+        C.due("calls in groups", calls, Document.PROMISES - 1);
     }
 
     private static void classesInside() {

@@ -1,6 +1,4 @@
 import java.io.IOException;
-import java.util.Set;
-import java.util.TreeSet;
 import java.util.function.Function;
 import java.util.function.Supplier;
 import java.util.function.ToLongFunction;
@@ -12,7 +10,6 @@ import java.util.function.ToLongFunction;
 final class Sentences {
     private final Checks checks = new Checks();
     private final Document document;
-    private final Set<String> begun = new TreeSet<>();
     private String sentence = "";
     private int behind = 1;
 
@@ -21,19 +18,18 @@ final class Sentences {
     }
 
     void promise(int n, String words) {
-        begin("promise " + n, words, document.promise(n));
+        begin("promise " + n, words, document.quotePromise(n, words));
     }
 
     void term(int section, String words) {
-        begin("terms " + section, words, document.term(section));
+        begin("terms " + section, words, document.quoteTerm(section, words));
     }
 
-    private void begin(String where, String words, String told) {
+    private void begin(String where, String words, boolean told) {
         endSentence();
         sentence = where + ", '" + words + "'";
         behind = 0;
-        begun.add(where);
-        checks.isTrue(sentence + " stands in the document", told.contains(words));
+        checks.isTrue(sentence + " stands in the document", told);
     }
 
     private void endSentence() {
@@ -89,11 +85,16 @@ final class Sentences {
     void end(String test) {
         endSentence();
         for (int n = 1; n <= Document.PROMISES; n++) {
-            checks.isTrue("promise " + n + " has a sentence that is checked", begun.contains("promise " + n));
+            allIsQuoted("promise " + n, document.leftOfPromise(n));
         }
         for (int n = 0; n <= Document.TERMS; n++) {
-            checks.isTrue("terms " + n + " have a sentence that is checked", begun.contains("terms " + n));
+            allIsQuoted("terms " + n, document.leftOfTerm(n));
         }
         checks.end(test);
+    }
+
+    /** A part of which nothing stands in the document is not quoted either. */
+    private void allIsQuoted(String where, String left) {
+        checks.isTrue(where + ": each word has a check; no check has " + left, left.equals("|"));
     }
 }

@@ -1,7 +1,10 @@
 import java.io.IOException;
 
-/** Each sentence of the document that names an edge (too small, too large, empty, full, wrapped around, refused). */
-public final class EdgesTest {
+/**
+ * Each sentence of the document: those that name an edge (too small, too large, empty, full, wrapped around, refused),
+ * and the plain ones; a word that no check quotes is told at the end.
+ */
+public final class SentencesTest {
     public static void main(String[] args) throws IOException {
         Sentences s = new Sentences();
         new TermsEdges(s).run();
@@ -10,6 +13,7 @@ public final class EdgesTest {
         new DoneEdges(s).run();
         new ForetoldEdges(s).run();
         new AskedEdges(s).run();
-        s.end("EdgesTest");
+        new PlainSentences(s).run();
+        s.end("SentencesTest");
     }
 }
